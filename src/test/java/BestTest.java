@@ -6,6 +6,9 @@ final class BestTest {
     public static void main(String[] args) {
         none();
         few();
+        fewOfJustAsMuchJoy();
+        fewOfLeastBits();
+        fewBehindMoreClients();
         missed();
         change();
         raise();
@@ -49,6 +52,39 @@ final class BestTest {
         due.is("one for all", x.few(0), 4);
         x.set(3, 2, 0);
         due.is("not up: no use", x.few(0), 3);
+    }
+
+    private static void fewOfJustAsMuchJoy() {
+        CrystalByTheMinute x = new CrystalByTheMinute();
+        x.figure(0, 0, 5);
+        x.figure(5, 0, 5);
+        x.client(0, 1);
+        x.client(0, 0);
+        due.is("joy", x.showing(0, 1), 11);
+        due.is("one less would not do", x.few(0), 3);
+    }
+
+    private static void fewOfLeastBits() {
+        CrystalByTheMinute x = new CrystalByTheMinute();
+        x.figure(0, 0, 5);
+        x.figure(0, 0, 5);
+        x.figure(0, 0, 5);
+        x.client(0, 3);
+        x.client(0, 5);
+        due.is("the first gladdest showing", x.showing(0, 0), 13);
+        due.is("another has lesser bits", x.few(0), 3);
+    }
+
+    private static void fewBehindMoreClients() {
+        CrystalByTheMinute x = new CrystalByTheMinute();
+        x.figure(0, 0, 5);
+        x.figure(0, 0, 5);
+        x.client(0, 1);
+        x.image();
+        x.client(0, 3);
+        due.is("two for two", x.few(0), 3);
+        x.back();
+        due.is("one for one", x.few(0), 1);
     }
 
     private static void missed() {

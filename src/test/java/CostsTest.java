@@ -7,9 +7,12 @@ final class CostsTest {
     public static void main(String[] args) {
         telling();
         tellingByMeans();
+        tellingByMeansAlone();
+        tellingInAnyOrder();
         tellsRefused();
         filming();
         drawing();
+        drawingOfSix();
         chances();
         images();
         counting();
@@ -70,6 +73,37 @@ final class CostsTest {
         due.is("a burglar, whatever its means", x.tells(0, 1, 5), 1000);
     }
 
+    private static void tellingByMeansAlone() {
+        CrystalByTheMinute x = new CrystalByTheMinute();
+        x.figure(0, 3, 10);
+        x.force(Due.text(x, "prices means;joys 0;pays 0;"));
+        Due.sheet(x, 0, 0, 7);
+        due.is("how many", x.tells(0, 0, 5), 1);
+        due.is("the least", x.tells(0, 0, 6), 7);
+        Due.sheet(x, 0, 0, 99);
+        due.is("how many, at the bound", x.tells(0, 0, 5), 901);
+        due.is("the least", x.tells(0, 0, 6), 99);
+    }
+
+    /** What a call tells does not hang on which call was ahead of it. */
+    private static void tellingInAnyOrder() {
+        CrystalByTheMinute x = new CrystalByTheMinute();
+        x.figure(1, 3, 10);
+        x.figure(0, 3, 10);
+        Due.text(x, "prices number+means*(means<9);joys 0;pays 0;");
+        Due.text(x, "prices number;joys 0;pays 0;");
+        x.force(1);
+        x.film(0, 0, 12);
+        int[] wants = {-1, 2, 1 << 3, 2, 6, 1000 - 8, 0};
+        for (int first = 0; first < 7; first++) {
+            for (int second = 0; second < 7; second++) {
+                x.tells(0, 1, first);
+                x.tells(0, 0, first);
+                due.is("tells(0, 0, " + second + ") behind " + first, x.tells(0, 0, second), wants[second]);
+            }
+        }
+    }
+
     private static void tellsRefused() {
         CrystalByTheMinute x = new CrystalByTheMinute();
         x.figure(0, 0, 0);
@@ -123,13 +157,41 @@ final class CostsTest {
         x.client(3, 3);
         x.client(3, 3);
         x.client(3, 3);
-        for (int seed : new int[] {0, 1, 2, 3, 77, -1, Integer.MAX_VALUE, Integer.MIN_VALUE}) {
+        for (int seed : new int[] {77, -1, Integer.MAX_VALUE, Integer.MIN_VALUE}) {
+            due.is("drawn(" + seed + ")", x.drawn(seed), drawnByHand(seed));
+        }
+        for (int seed = 0; seed < 200; seed++) {
             due.is("drawn(" + seed + ")", x.drawn(seed), drawnByHand(seed));
         }
         due.is("means are as they were", x.count(2), 0);
         x.force(Due.text(x, "prices 0;joys means;pays 0;"));
         int z = 5 * 1103515245 + 12345;
         due.is("the text sees the means that would be", x.drawn(5), 3 * ((z >>> 9) % 100));
+    }
+
+    /** Five of six figures, each shown to one who is as glad as its means are. */
+    private static void drawingOfSix() {
+        CrystalByTheMinute x = new CrystalByTheMinute();
+        for (int f = 0; f < 6; f++) {
+            x.figure(0, 0, 0);
+        }
+        for (int c = 0; c < 5; c++) {
+            x.client(0, 2 << c);
+        }
+        x.force(Due.text(x, "prices 0;joys means;pays 0;"));
+        int times = 0;
+        for (int seed = -10; seed < 10; seed++) {
+            int z = seed;
+            int joy = 0;
+            for (int f = 0; f < 6; f++) {
+                z = z * 1103515245 + 12345;
+                joy += f == 0 ? 0 : (z >>> 9) % 100;
+            }
+            due.is("drawn(" + seed + ")", x.drawn(seed), joy);
+            times += joy >= 198 ? 1 : 0;
+            due.is("above", x.chance(-10, seed + 11, 198, 0) * (seed + 11), times * x.chance(-10, seed + 11, 198, 1));
+        }
+        due.is("some are, some are not", times > 3 && times < 17 ? 1 : 0, 1);
     }
 
     /** Of the two figures above: the first by fives, then the second by tens. */
@@ -151,6 +213,21 @@ final class CostsTest {
         return joy;
     }
 
+    /** The first seed with two others near by of which the joy is more than usual, so that chances are neither 0 nor 1. */
+    private static int seedOfMore() {
+        for (int seed = 1; seed < 100000; seed++) {
+            int times = 0;
+            for (int i = 0; i < 8; i++) {
+                times += drawnByHand(seed + i) > 30 ? 1 : 0;
+            }
+            if (times >= 2 && times <= 6) {
+                return seed;
+            }
+        }
+        due.is("a seed of more joy is found", 0, 1);
+        return 0;
+    }
+
     private static void chances() {
         CrystalByTheMinute x = new CrystalByTheMinute();
         x.figure(0, 0, 0);
@@ -158,9 +235,10 @@ final class CostsTest {
         x.client(3, 3);
         x.client(3, 3);
         x.client(3, 3);
+        int[] seeds = {0, seedOfMore(), Integer.MAX_VALUE - 3};
         for (int n = 1; n <= 20; n++) {
             for (int k : new int[] {0, 30, 31, 32, 34, 36, 999}) {
-                for (int seed : new int[] {0, Integer.MAX_VALUE - 3}) {
+                for (int seed : seeds) {
                     int times = 0;
                     for (int i = 0; i < n; i++) {
                         times += drawnByHand(seed + i) >= k ? 1 : 0;

@@ -8,7 +8,10 @@ final class TextsTest {
         reading();
         fullOfTexts();
         forcing();
+        aTextBehindAFault();
+        aTextBehindALongerOne();
         faults();
+        strangeWords();
         openSigns();
         values();
         namesOfPrices();
@@ -46,6 +49,31 @@ final class TextsTest {
             longest.append(' ');
         }
         due.is("text 3, of 160 bytes", Due.text(x, longest.toString()), 3);
+    }
+
+    private static void aTextBehindAFault() {
+        CrystalByTheMinute x = new CrystalByTheMinute();
+        x.figure(0, 0, 0);
+        x.client(0, 1);
+        due.is("a fault at its end", Due.text(x, "prices 7+1;joys 7;pays 7"), -100 - 24);
+        due.is("a text", Due.text(x, "prices 2;joys 3;pays 4;"), 1);
+        x.force(1);
+        due.is("prices", x.told(0, 10), 2);
+        due.is("joys", x.glad(0, 0, 0), 3);
+        due.is("pays", x.glad(0, 0, 1), 4);
+    }
+
+    /** What stood on the tape before is not read any more. */
+    private static void aTextBehindALongerOne() {
+        for (String ahead : new String[] {"0", "a", " ", ";", "("}) {
+            for (String text : new String[] {"prices 12", "prices hou", "prices 1 ", "prices 1;", "prices (", "prices"}) {
+                CrystalByTheMinute x = new CrystalByTheMinute();
+                Due.feed(x, ahead.repeat(160));
+                x.text();
+                int fault = text.endsWith("hou") ? 7 : text.length();
+                due.is("'" + text + "' behind 160 times '" + ahead + "'", Due.text(x, text), -100 - fault);
+            }
+        }
     }
 
     private static void fullOfTexts() {
@@ -137,6 +165,32 @@ final class TextsTest {
         fault("prices 5 !" + (char) 0);
         fault("prices 5 !" + (char) 255);
         fault("prices 5 !\r;");
+        fault("prices 1 or !;joys 1;pays 1;");
+        fault("prices 1 and !;joys 1;pays 1;");
+        fault("prices not !;joys 1;pays 1;");
+        fault("prices 1 < !;joys 1;pays 1;");
+        fault("prices 1 = !;joys 1;pays 1;");
+        fault("prices 1 + !;joys 1;pays 1;");
+        fault("prices 1 - !;joys 1;pays 1;");
+        fault("prices 1 * !;joys 1;pays 1;");
+        fault("prices - !;joys 1;pays 1;");
+        fault("prices (!;joys 1;pays 1;");
+        fault("prices (1!;joys 1;pays 1;");
+    }
+
+    private static void strangeWords() {
+        fault("prices not !nor 1;joys 1;pays 1;");
+        fault("prices (!x);joys 1;pays 1;");
+        fault("prices -!x;joys 1;pays 1;");
+        fault("prices !xot 1;joys 1;pays 1;");
+        fault("!xrices 1;joys 1;pays 1;");
+        fault("prices !xour;joys 1;pays 1;");
+        fault("prices !hourz;joys 1;pays 1;");
+        fault("prices !hourhour;joys 1;pays 1;");
+        fault("prices 1 !o 1;joys 1;pays 1;");
+        fault("prices 1 !orr 1;joys 1;pays 1;");
+        fault("prices 1;!joy 1;pays 1;");
+        fault("prices hour!Z;joys 1;pays 1;");
     }
 
     private static void openSigns() {
@@ -208,6 +262,13 @@ final class TextsTest {
         value("9999*9999*9999", -99);
         value("9999*9999*22<0", 1);
         value("9999*9999*44<0", 0);
+        for (int last = 5; last < 9; last++) {
+            String nested = "0 or 1 and 6<0+1*" + last;
+            for (int level = 0; level < 5; level++) {
+                nested = "0 or 1 and 0<0+1*(" + nested + ")";
+            }
+            value(nested, last > 6 ? 1 : 0);
+        }
         value("hour", 4);
         value("number", 3);
         value("means", 40);
