@@ -228,15 +228,21 @@ final class CostsTest {
         return 0;
     }
 
-    private static void chances() {
+    private static CrystalByTheMinute twoAndThree() {
         CrystalByTheMinute x = new CrystalByTheMinute();
         x.figure(0, 0, 0);
         x.figure(1, 0, 0);
         x.client(3, 3);
         x.client(3, 3);
         x.client(3, 3);
+        return x;
+    }
+
+    private static void chances() {
+        CrystalByTheMinute x = twoAndThree();
         int[] seeds = {0, seedOfMore(), Integer.MAX_VALUE - 3};
         for (int n = 1; n <= 20; n++) {
+            x = twoAndThree();
             for (int k : new int[] {0, 30, 31, 32, 34, 36, 999}) {
                 for (int seed : seeds) {
                     int times = 0;

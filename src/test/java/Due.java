@@ -15,6 +15,26 @@ final class Due {
         }
     }
 
+    /** Two states, as state() or everything() tell them, must be the same. */
+    void same(String call, String got, String want) {
+        calls++;
+        if (!got.equals(want)) {
+            wrong++;
+            System.out.println(test + ": " + call + " left\n  " + got + ", due is\n  " + want);
+        }
+    }
+
+    /** A text with ! at the place of its fault: it must be found there. */
+    void fault(String call, String marked) {
+        int place = marked.indexOf('!');
+        String text = marked.substring(0, place) + marked.substring(place + 1);
+        is(call + " '" + text + "'", text(new CrystalByTheMinute(), text), -100 - place);
+    }
+
+    int calls() {
+        return calls;
+    }
+
     void end() {
         System.out.println(test + ": " + calls + " answers, " + wrong + " not as due");
         if (wrong != 0) {
@@ -43,21 +63,22 @@ final class Due {
         }
     }
 
-    /** Everything that calls can tell of an object without changing it, so that two states can be compared. */
+    /** Figures, clients, rate, rule and counts: by few calls, for an object's 512 must do for two states and what lies between. */
     static String state(CrystalByTheMinute x) {
-        StringBuilder b = new StringBuilder();
+        StringBuilder b = new StringBuilder("counts");
         for (int what = 0; what < 6; what++) {
-            b.append(x.count(what)).append(' ');
+            b.append(' ').append(x.count(what));
         }
-        for (int of = 0; of < 6; of++) {
-            for (int what = 0; what < 42; what++) {
-                b.append(x.told(of, what)).append(' ');
+        b.append(", rate ").append(x.told(0, 0));
+        for (int f = 0; f < x.count(0); f++) {
+            b.append(", figure");
+            for (int what : new int[] {6, 1, 2, 3, 7, 10, 21}) {
+                b.append(' ').append(x.told(f, what));
             }
         }
-        for (int c = 0; c < 5; c++) {
-            for (int f = 0; f < 6; f++) {
-                b.append(x.glad(c, f, 0)).append(' ').append(x.glad(c, f, 1)).append(' ');
-            }
+        for (int c = 0; c < x.count(1); c++) {
+            b.append(", client ").append(x.told(c, 4)).append(' ').append(x.told(c, 5));
+            b.append(' ').append(x.glad(c, 0, 0)).append(' ').append(x.glad(c, 0, 1));
         }
         return b.toString();
     }

@@ -3,11 +3,11 @@ import java.util.Random;
 /** Runs of calls with drawn arguments (always the same ones): the class must answer what the naive model answers. */
 final class ModelTest {
     private static final Due due = new Due("ModelTest");
-    private static final int RUNS = 120, CALLS = 512, TEXTS = 40000;
+    /** No object is called more than 512 times; one step of a run makes fewer than MOST_OF_A_STEP calls. */
+    private static final int RUNS = 600, CALLS = 512, MOST_OF_A_STEP = 170, TEXTS = 40000;
     private static Random random;
     private static CrystalByTheMinute x;
     private static Model m;
-    private static int calls;
 
     public static void main(String[] args) {
         int runs = args.length > 0 ? Integer.parseInt(args[0]) : RUNS;
@@ -18,9 +18,10 @@ final class ModelTest {
             x = new CrystalByTheMinute();
             m = new Model();
             boolean isSmall = run % 4 != 0;
+            int before = due.calls();
             begin(isSmall);
-            for (calls = 0; calls < (isSmall ? CALLS : 40); calls++) {
-                call(random.nextInt(28), "run " + run + " call " + calls + ": ");
+            for (int step = 0; step < (isSmall ? CALLS : 40) && due.calls() - before < CALLS - MOST_OF_A_STEP; step++) {
+                call(random.nextInt(28), "run " + run + " step " + step + ": ");
             }
         }
         due.end();
