@@ -31,6 +31,7 @@ final class CostsEdgesTest {
         promise22HowMany();
         promise23NoneYet();
         promise23AllThatItKeeps();
+        promise23WhoWentIsShownNoMore();
         promise23WhatItDoesNotKeep();
         promise23AgainAndAnew();
         promise23OfNobody();
@@ -547,6 +548,33 @@ final class CostsEdgesTest {
         x.force(1);
         x.image();
         return x;
+    }
+
+    /** "(those that came since go)": who went is shown no more, missed by nobody, not among the fewest. */
+    private static void promise23WhoWentIsShownNoMore() {
+        CrystalByTheMinute x = new CrystalByTheMinute();
+        // by prices of 0 nobody needs MEANS, who went as little as who is here
+        x.force(Due.text(x, "prices 0;joys 10;pays 1;"));
+        x.figure(0, 0, 0);
+        x.figure(0, 0, 0);
+        x.client(2, 5);
+        x.client(2, 6);
+        x.image();
+        x.figure(1, 0, 0);
+        due.is("promise 23: a LADY for both", x.showing(0, 0), 33);
+        due.is("promise 23: few(0) of three", x.few(0), 4);
+        due.is("promise 23: missed(0) of three", x.missed(0), 2);
+        x.back();
+        for (int how = 0; how < 3; how += 2) {
+            due.is("promise 23: two, how " + how, x.showing(how, 0), 12);
+            due.is("promise 23: its JOY", x.showing(how, 1), 20);
+        }
+        due.is("promise 23: RICHEST of two", x.showing(1, 0), 11);
+        due.is("promise 23: few(0) of two", x.few(0), 3);
+        due.is("promise 23: missed(0) of two", x.missed(0), 0);
+        due.is("promise 23: missed(1) of two", x.missed(1), 10);
+        due.is("promise 23: raise(999, 1)", x.raise(999, 1), 20);
+        due.is("promise 23: change(1)", x.change(1), 20);
     }
 
     /** "All that it keeps": TEXTS, THE TAPE and SHEETS aren't among these, so they stay as they are. */
