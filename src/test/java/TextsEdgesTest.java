@@ -122,7 +122,7 @@ final class TextsEdgesTest {
 
     /** A TEXT behind a FAULT is what its own bytes say, however much of the FAULT's text could be read. */
     private static void promise8NothingIsLeftOfAFault() {
-        String[] faults = {"prices 7+1;joys 7;pays 7", "prices 7;joys 7-", "prices 7;", "prices 7 7", "prices -(-(7;", ""};
+        String[] faults = {"prices 7+1;joys 7;pays 7", "prices 7;joys 7-", "prices 7;", "prices 7 7", "prices -(-(7;", "prices 1;joys 1;pays --1", ""};
         for (String fault : faults) {
             CrystalByTheMinute x = new CrystalByTheMinute();
             x.figure(0, 0, 0);
