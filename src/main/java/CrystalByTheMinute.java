@@ -887,7 +887,7 @@ public final class CrystalByTheMinute {
                 shown[c] = NONE;
             }
             best = 0;
-            search(gain, 0, 0);
+            search(this, gain, 0, 0);
             return best;
         }
 
@@ -908,26 +908,29 @@ public final class CrystalByTheMinute {
             }
         }
 
-        /** Tries fog first and figures by numbers, so that of like showings the first one met is the first one. */
-        private void search(int[][] gain, int c, int sum) {
-            if (c >= clientCount) {
-                if (sum > best) {
-                    best = sum;
-                    System.arraycopy(tried, 0, shown, 0, clientCount);
+        /**
+         * Tries fog first and figures by numbers, so that of like showings the first one met is the first one.
+         * It is told the keeper, for by LANGUAGE.md only a static method may call itself.
+         */
+        private static void search(Keeper k, int[][] gain, int c, int sum) {
+            if (c >= k.clientCount) {
+                if (sum > k.best) {
+                    k.best = sum;
+                    System.arraycopy(k.tried, 0, k.shown, 0, k.clientCount);
                 }
                 return;
             }
-            if (sum + hope[c] <= best) {
+            if (sum + k.hope[c] <= k.best) {
                 return;
             }
-            tried[c] = NONE;
-            search(gain, c + 1, sum);
-            for (int f = 0; f < figureCount; f++) {
-                if (isAllowed(c, f)) {
-                    tried[c] = f;
-                    left[f] -= cost[c][f];
-                    search(gain, c + 1, sum + gain[c][f]);
-                    left[f] += cost[c][f];
+            k.tried[c] = NONE;
+            search(k, gain, c + 1, sum);
+            for (int f = 0; f < k.figureCount; f++) {
+                if (k.isAllowed(c, f)) {
+                    k.tried[c] = f;
+                    k.left[f] -= k.cost[c][f];
+                    search(k, gain, c + 1, sum + gain[c][f]);
+                    k.left[f] += k.cost[c][f];
                 }
             }
         }
@@ -939,26 +942,26 @@ public final class CrystalByTheMinute {
         int fewestFigures() {
             fewest = ALL_FIGURES;
             fillPurses();
-            searchFewest(0, 0, 0);
+            searchFewest(this, 0, 0, 0);
             return fewest;
         }
 
-        private void searchFewest(int c, int sum, int used) {
-            if (sum + hope[c] < best || Integer.bitCount(used) > Integer.bitCount(fewest)) {
+        private static void searchFewest(Keeper k, int c, int sum, int used) {
+            if (sum + k.hope[c] < k.best || Integer.bitCount(used) > Integer.bitCount(k.fewest)) {
                 return;
             }
-            if (c >= clientCount) {
-                if (used < fewest || Integer.bitCount(used) < Integer.bitCount(fewest)) {
-                    fewest = used;
+            if (c >= k.clientCount) {
+                if (used < k.fewest || Integer.bitCount(used) < Integer.bitCount(k.fewest)) {
+                    k.fewest = used;
                 }
                 return;
             }
-            searchFewest(c + 1, sum, used);
-            for (int f = 0; f < figureCount; f++) {
-                if (isAllowed(c, f)) {
-                    left[f] -= cost[c][f];
-                    searchFewest(c + 1, sum + joy[c][f], used | 1 << f);
-                    left[f] += cost[c][f];
+            searchFewest(k, c + 1, sum, used);
+            for (int f = 0; f < k.figureCount; f++) {
+                if (k.isAllowed(c, f)) {
+                    k.left[f] -= k.cost[c][f];
+                    searchFewest(k, c + 1, sum + k.joy[c][f], used | 1 << f);
+                    k.left[f] += k.cost[c][f];
                 }
             }
         }
@@ -1118,17 +1121,21 @@ public final class CrystalByTheMinute {
         }
 
         private boolean readNot(Text t, int open) {
-            if (token == NOT_KEY) {
-                if (open >= MOST_OPEN) {
-                    return false;
-                }
+            int nots = 0;
+            for (; token == NOT_KEY && open + nots < MOST_OPEN; nots++) {
                 advance();
-                if (!readNot(t, open + 1)) {
-                    return false;
-                }
-                t.add(Text.NOT);
-                return true;
             }
+            if (!readComparison(t, open + nots)) {
+                return false;
+            }
+            for (int i = 0; i < nots; i++) {
+                t.add(Text.NOT);
+            }
+            return true;
+        }
+
+        /** A not that had no room is still at hand, and is none that a SUM begins with. */
+        private boolean readComparison(Text t, int open) {
             if (!readSum(t, open)) {
                 return false;
             }
@@ -1174,6 +1181,21 @@ public final class CrystalByTheMinute {
         }
 
         private boolean readOne(Text t, int open) {
+            int minuses = 0;
+            for (; token == '-' && open + minuses < MOST_OPEN; minuses++) {
+                advance();
+            }
+            if (!readOperand(t, open + minuses)) {
+                return false;
+            }
+            for (int i = 0; i < minuses; i++) {
+                t.add(Text.NEGATE);
+            }
+            return true;
+        }
+
+        /** A minus that had no room is still at hand, and is no operand. */
+        private boolean readOperand(Text t, int open) {
             if (token == A_NUMBER) {
                 t.add(worth);
                 advance();
@@ -1184,19 +1206,11 @@ public final class CrystalByTheMinute {
                 advance();
                 return true;
             }
-            if (token != '-' && token != '(' || open >= MOST_OPEN) {
+            if (token != '(' || open >= MOST_OPEN) {
                 return false;
             }
-            boolean isMinus = token == '-';
             advance();
-            if (!isMinus) {
-                return readE(t, open + 1) && pass(')');
-            }
-            if (!readOne(t, open + 1)) {
-                return false;
-            }
-            t.add(Text.NEGATE);
-            return true;
+            return readE(t, open + 1) && pass(')');
         }
 
         private void advance() {

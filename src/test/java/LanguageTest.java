@@ -27,6 +27,7 @@ final class LanguageTest {
         membersOfClasses();
         words();
         lengths();
+        recursion();
         due.end();
     }
 
@@ -125,5 +126,28 @@ final class LanguageTest {
                 due.is("the method at line " + start + " has some sixty lines at most", line - start <= 60 ? 1 : 0, 1);
             }
         }
+    }
+
+    /** Rule 8: private methods may call one another, but what calls itself is private and static. */
+    private static void recursion() throws Exception {
+        Pattern head = Pattern.compile("( {4}| {8})(\\w.*?)\\b(\\w+)\\([^)]*\\) \\{");
+        Matcher method = null;
+        boolean callsItself = false;
+        int found = 0;
+        for (String text : source().split("\n")) {
+            if (method == null) {
+                Matcher m = head.matcher(text);
+                method = m.matches() ? m : null;
+                callsItself = false;
+            } else if (text.equals(method.group(1) + "}")) {
+                found += callsItself ? 1 : 0;
+                boolean isAllowed = method.group(2).startsWith("private static ");
+                due.is(method.group(3) + " calls itself and is not private and static", callsItself && !isAllowed ? 1 : 0, 0);
+                method = null;
+            } else {
+                callsItself |= Pattern.compile("\\b" + method.group(3) + "\\(").matcher(text).find();
+            }
+        }
+        due.is("some methods were seen to call themselves", found > 0 ? 1 : 0, 1);
     }
 }
